@@ -462,19 +462,14 @@ public final class StepHeap {
             return lowestMade;
         }
 
-        /** What a cell leads to, in the half in use. */
+        /** What a cell leads to, in the half in use. The cell is left as it is: work() will come to it. */
         int follow(int cell) {
-            int was = cells.read(cell);
-            int now = placeInUse(was);
-            if (now != was) {
-                cells.write(cell, now);
-            }
-            return now;
+            return placeInUse(cells.read(cell));
         }
 
         void link(int cell, int place) {
             // What the cell led to was reached as the cycle began: R has it, though this may be the last way to it.
-            placeInUse(cells.read(cell));
+            follow(cell);
             cells.write(cell, place);
         }
 
@@ -491,7 +486,7 @@ public final class StepHeap {
             useHalf(base == 1 ? 1 + half : 1);
             made = 0;
             begun++;
-            for (int i = 0; i < REGISTERS; i++) {
+            for (int i = 0; i < registers.length; i++) {
                 registers[i] = placeInUse(registers[i]);
             }
         }
@@ -522,12 +517,12 @@ public final class StepHeap {
 
         /**
          * Goes on through the moved cells, one by one and not object by object, as a cell may cost the move of 16 more.
-         * It ends with more than k * made cells gone through, so that R is above k * made, or with all of them, so that
-         * R is known.
+         * It ends with all of them gone through, so that R is known, or with k * made of them and some left, so that R is
+         * above k * made.
          */
         private void work() {
             int goal = base + k * made;
-            for (int turn = 0; turn <= k * MOST_CELLS && scan < free && scan <= goal; turn++) {
+            for (int turn = 0; turn < k * MOST_CELLS && scan < free && scan < goal; turn++) {
                 int word = cells.read(scan);
                 if (scan == nextHead) {
                     tracedEnd = scan + 1 + Head.traced(word);
