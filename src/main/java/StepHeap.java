@@ -386,8 +386,8 @@ public final class StepHeap {
 
     /**
      * The registers, the two halves and the cycles. What was reached as a cycle began is moved to the half in use from
-     * its low end on; what is made comes from its high end and is never gone through, as it can only lead to the half in
-     * use. By the rule of making, R + made stays below 2 * H + 64, so the two ends never meet.
+     * its low end on; what is made comes from its high end and is never gone through, as it can only lead to the half
+     * in use. By the rule of making, R + made stays below 2 * H + 64, so the two ends never meet.
      */
     private static final class Mover {
         private final Cells cells;
@@ -517,8 +517,8 @@ public final class StepHeap {
 
         /**
          * Goes on through the moved cells, one by one and not object by object, as a cell may cost the move of 16 more.
-         * It ends with all of them gone through, so that R is known, or with k * made of them and some left, so that R is
-         * above k * made.
+         * It ends with all of them gone through, so that R is known, or with k * made of them and some left, so that R
+         * is above k * made.
          */
         private void work() {
             int goal = base + k * made;

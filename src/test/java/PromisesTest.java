@@ -1,3 +1,5 @@
+import java.lang.reflect.Field;
+
 /** The promises one by one: ordinary inputs, the edges that the document names, and wrong inputs. */
 public final class PromisesTest {
     private static final long NO_INT = Long.MIN_VALUE;
@@ -6,7 +8,7 @@ public final class PromisesTest {
     private PromisesTest() {
     }
 
-    public static void main(String[] args) {
+    public static void main(String[] args) throws ReflectiveOperationException {
         Check.due("NONE", StepHeap.NONE, -1);
         newObject();
         make();
@@ -29,6 +31,7 @@ public final class PromisesTest {
         reachedAsTheCycleBegan();
         arraysAreMovedWhole();
         steady();
+        steadyIsCounted();
         Check.end();
     }
 
@@ -684,5 +687,30 @@ public final class PromisesTest {
             }
             Check.due("p17 cycles began", x.told(0), 3);
         }
+    }
+
+    /** No call does more than it may, so what is allowed must be made less to see that steady() looks at the calls. */
+    private static void steadyIsCounted() throws ReflectiveOperationException {
+        for (int allowed = 14; allowed <= 17; allowed++) {
+            StepHeap x = heap();
+            allow(x, allowed);
+            x.make(0, 7, 7);
+            Check.due("p17 fifteen cells, allowed " + allowed, x.steady(), allowed >= 15);
+            x.set(0, 0, 1);
+            Check.due("p17 each call for itself", x.steady(), allowed >= 15);
+            x.make(0, 7, 8);
+            Check.due("p17 sixteen cells, allowed " + allowed, x.steady(), allowed >= 16);
+            x.look(0, 0);
+            Check.due("p17 it stays", x.steady(), allowed >= 16);
+        }
+    }
+
+    private static void allow(StepHeap x, int allowed) throws ReflectiveOperationException {
+        Field cells = StepHeap.class.getDeclaredField("cells");
+        cells.setAccessible(true);
+        Object counted = cells.get(x);
+        Field field = counted.getClass().getDeclaredField("allowed");
+        field.setAccessible(true);
+        field.setInt(counted, allowed);
     }
 }
