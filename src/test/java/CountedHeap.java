@@ -1,4 +1,4 @@
-/** A StepHeap that is asked at most 512 times: the document promises nothing of a later call, so no test may rest on it. */
+/** A StepHeap that is asked at most 512 times: nothing is promised of a later call, so no test may rest on one. */
 final class CountedHeap {
     static final int MOST_CALLS = 512;
 
@@ -7,11 +7,6 @@ final class CountedHeap {
 
     CountedHeap(int h, int k) {
         heap = new StepHeap(h, k);
-    }
-
-    /** The heap itself, for what is not one of its calls. */
-    StepHeap uncounted() {
-        return heap;
     }
 
     int callsLeft() {

@@ -268,7 +268,7 @@ public final class ShapesTest {
         Check.due("p2 the one before", x.look(1, 0), 5);
     }
 
-    /** Terms: "An object has fields and no items, an array items and no fields." Of one cell and of 16, of any length. */
+    /** Terms: "An object has fields and no items, an array items and no fields": of whatever kind and length. */
     private static void objectsHaveNoItemsAndArraysNoFields() {
         for (int refs : new int[] {0, 7, 15}) {
             CountedHeap x = heap();

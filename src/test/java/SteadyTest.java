@@ -40,7 +40,7 @@ public final class SteadyTest {
         return x;
     }
 
-    /** Terms: "each call may look at or write at most 700 * k + 200 of them": a making that begins a cycle, and more. */
+    /** Terms: "each call may look at or write at most 700 * k + 200 of them": a making that begins a cycle too. */
     private static void dearestMakings() {
         for (int k = 1; k <= 64; k++) {
             for (int kind = 0; kind < 3; kind++) {
